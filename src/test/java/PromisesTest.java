@@ -55,11 +55,13 @@ public final class PromisesTest {
         sweepDown();
         sweepUp();
         sweepWeights();
+        sweepWeightsOfBends();
         sweepGroups();
         sift();
         siftGroups();
         siftAll();
         reduce();
+        reduceIsItsRounds();
         reduceKeepsTheEarliest();
         exchange();
     }
@@ -67,6 +69,7 @@ public final class PromisesTest {
     private static void coordinatePromises() {
         align();
         alignMiddle();
+        alignStays();
         alignIsUndone();
         left();
         width();
@@ -89,6 +92,7 @@ public final class PromisesTest {
     private static void slotPromises() {
         keep();
         restore();
+        restoreEverything();
         checksum();
     }
 
@@ -385,6 +389,16 @@ public final class PromisesTest {
         x.removeEdge();
         x.removeEdge();
         due("reversals()", x.reversals(), 2);
+        // the first edge counts, and what was reversed once may be so no more
+        LayeredDrawing y = withNodes(2);
+        connect(y, 1, 0);
+        due("reversals()", y.reversals(), 0);
+        connect(y, 0, 1);
+        due("reversals()", y.reversals(), 1);
+        y.removeEdge();
+        due("reversals()", y.reversals(), 0);
+        due("reversed(0)", y.reversed(0), 0);
+        due("layerOf(0)", y.layerOf(0), 1);
     }
 
     private static void layerOf() {
@@ -558,6 +572,22 @@ public final class PromisesTest {
         x.layOut();
         row(x, 0, 0, 7, 1, 2, 5, 4, 6);
         row(x, 1, 3);
+        // a bend belongs to no group
+        for (int group = 1; group < 4; group++) {
+            LayeredDrawing y = new LayeredDrawing();
+            y.addNode(1, group);
+            y.addNode(1, group);
+            y.addNode(1, 0);
+            connect(y, 0, 1, 0, 2);
+            y.addEdge(0, 1, 0, 0, 2);
+            y.addEdge(1, 2, 0, 0, 1);
+            y.removeEdge();
+            y.removeEdge();
+            y.addNode(1, 0);
+            y.addEdge(0, 3, 0, 0, 2);
+            y.layOut();
+            row(y, 1, 1, 2, 181);
+        }
     }
 
     private static void vertices() {
@@ -712,6 +742,14 @@ public final class PromisesTest {
             due("crossingsOf(" + wrong + ", 0)", x.crossingsOf(wrong, 0), BAD);
         }
         due("crossingsOf(1, 1)", x.crossingsOf(1, 1), BAD);
+        // edges between other layers do not cross, wherever their ends are
+        LayeredDrawing y = withNodes(6);
+        connect(y, 0, 1, 1, 2, 3, 4, 0, 5);
+        y.addEdge(4, 2, 0, 0, 1);
+        y.layOut();
+        due("crossingsOf(1, 2)", y.crossingsOf(1, 2), 0);
+        due("crossingsOf(1, 3)", y.crossingsOf(1, 3), 0);
+        due("crossingsOf(2, 3)", y.crossingsOf(2, 3), 1);
     }
 
     private static void sweepDown() {
@@ -795,6 +833,23 @@ public final class PromisesTest {
         row(w, 0, 0, 1, 3, 4);
     }
 
+    private static void sweepWeightsOfBends() {
+        CHECK.promise(23, "sweep, weights of bends");
+        LayeredDrawing x = withNodes(5);
+        connect(x, 0, 1, 0, 2);
+        x.addEdge(0, 3, 0, 0, 2);
+        connect(x, 1, 4, 2, 4);
+        x.layOut();
+        x.exchange(1, 1);
+        row(x, 1, 1, 181, 2);
+        // 3 weighs 8 of the bend, which has the port 0, 4 the middle of 0 and 16: they stay
+        due("sweep(true)", x.sweep(true), 1);
+        row(x, 2, 3, 4);
+        due("exchange(2, 0)", x.exchange(2, 0), 1);
+        due("sweep(true)", x.sweep(true), 1);
+        row(x, 2, 4, 3);
+    }
+
     private static void sweepGroups() {
         CHECK.promise(23, "sweep, groups");
         LayeredDrawing x = new LayeredDrawing();
@@ -823,6 +878,7 @@ public final class PromisesTest {
         connect(x, 0, 3, 1, 4, 2, 5, 2, 4);
         x.layOut();
         due("sift(3)", x.sift(3), 0);
+        due("sift(0)", x.sift(0), 0);
         due("exchange(1, 1)", x.exchange(1, 1), 1);
         row(x, 1, 3, 5, 4);
         due("sift(5)", x.sift(5), 2);
@@ -897,6 +953,21 @@ public final class PromisesTest {
         y.clear();
         y.layOut();
         due("siftAll()", y.siftAll(), 0);
+        // the node 0 is sifted too: of 1 0 it goes to the place 0, and then 1 before it
+        LayeredDrawing z = withNodes(2);
+        z.layOut();
+        z.exchange(0, 0);
+        due("siftAll()", z.siftAll(), 0);
+        row(z, 0, 1, 0);
+        LayeredDrawing w = withNodes(1);
+        w.addNode(1, 0);
+        connect(w, 0, 1);
+        w.addNode(1, 0);
+        w.addNode(1, 0);
+        w.layOut();
+        row(w, 0, 0, 2, 3);
+        due("siftAll()", w.siftAll(), 0);
+        row(w, 0, 3, 2, 0);
     }
 
     private static void reduce() {
@@ -914,6 +985,46 @@ public final class PromisesTest {
         x.addNode(1, 0);
         due("reduce(1)", x.reduce(1), NOT);
         due("reduce(0)", x.reduce(0), NOT);
+    }
+
+    /** Twelve nodes in three layers, with edges that lead all over the place. */
+    private static LayeredDrawing tangled(int step) {
+        LayeredDrawing x = new LayeredDrawing();
+        for (int node = 0; node < 12; node++) {
+            x.addNode(1 + node % 3, node % 5 == 0 ? 1 : 0);
+        }
+        for (int edge = 0; edge < 18; edge++) {
+            int upper = edge * step % 8;
+            int lower = upper < 4 ? 4 + edge * 3 % 8 : 8 + edge * 3 % 4;
+            x.addEdge(upper, lower, edge % 8, edge * 5 % 8, 1);
+        }
+        x.layOut();
+        return x;
+    }
+
+    private static void reduceIsItsRounds() {
+        CHECK.promise(26, "reduce, its rounds");
+        for (int step = 1; step < 60; step++) {
+            for (int rounds = 1; rounds <= 6; rounds++) {
+                LayeredDrawing x = tangled(step);
+                LayeredDrawing y = tangled(step);
+                int fewest = y.crossings();
+                y.keep(0);
+                for (int round = 0; round < rounds; round++) {
+                    y.sweep(true);
+                    y.sweep(false);
+                    int count = y.siftAll();
+                    if (count < fewest) {
+                        fewest = count;
+                        y.keep(0);
+                    }
+                }
+                y.restore(0);
+                due("reduce(" + rounds + ")", x.reduce(rounds), fewest);
+                due("crossings()", x.crossings(), fewest);
+                due("checksum()", x.checksum(), y.checksum());
+            }
+        }
     }
 
     private static void reduceKeepsTheEarliest() {
@@ -1035,6 +1146,23 @@ public final class PromisesTest {
         y.layOut();
         y.align();
         due("left(2)", y.left(2), 2);
+    }
+
+    private static void alignStays() {
+        CHECK.promise(28, "align, kept by calls that keep the order");
+        for (int call = 0; call < 6; call++) {
+            LayeredDrawing x = slanted();
+            x.align();
+            switch (call) {
+                case 0 -> due("sweep(true)", x.sweep(true), 0);
+                case 1 -> due("sweep(false)", x.sweep(false), 0);
+                case 2 -> due("sift(3)", x.sift(3), 1);
+                case 3 -> due("siftAll()", x.siftAll(), 0);
+                case 4 -> due("reduce(2)", x.reduce(2), 0);
+                default -> due("exchange(1, 1)", x.exchange(1, 1), BAD);
+            }
+            lefts(x, 0, 0, 1, 6, 2, 0, 3, 6);
+        }
     }
 
     private static void alignIsUndone() {
@@ -1225,6 +1353,16 @@ public final class PromisesTest {
         z.setGroup(2, 0);
         z.layOut();
         due("intruders(1)", z.intruders(1), 0);
+        // the left side itself: 2 ends at 2, where the group begins
+        LayeredDrawing w = new LayeredDrawing();
+        w.addNode(1, 0);
+        w.addNode(1, 1);
+        w.addNode(2, 0);
+        w.addNode(1, 1);
+        connect(w, 0, 2, 1, 3);
+        w.layOut();
+        due("border(1, 0)", w.border(1, 0), 2);
+        due("intruders(1)", w.intruders(1), 0);
         // the left side: 3 is from 2 to 5, 2 from 0 to 1
         due("border(2, 0)", z.border(2, 0), 2);
         due("intruders(2)", z.intruders(2), 0);
@@ -1276,6 +1414,7 @@ public final class PromisesTest {
         for (int at = 0; at <= whole.length(); at++) {
             fault(x, whole.substring(0, at) + " " + whole.substring(at), at);
         }
+        fault(x, "0.0>1.0;", NONE);
         fault(x, ";", 0);
         fault(x, ">1;", 0);
         fault(x, "0;", 1);
@@ -1453,6 +1592,47 @@ public final class PromisesTest {
         due("setGroup(0, 0)", x.setGroup(0, 0), 1);
     }
 
+    private static void restoreEverything() {
+        CHECK.promise(40, "restore, everything");
+        LayeredDrawing x = new LayeredDrawing();
+        for (int node = 0; node < 4; node++) {
+            x.addNode(9 - node, node);
+        }
+        x.addEdge(0, 1, 1, 2, 3);
+        x.addEdge(1, 0, 3, 4, 1);
+        x.addEdge(2, 3, 5, 6, 2);
+        x.layOut();
+        x.exchange(1, 0);
+        x.exchange(1, 1);
+        row(x, 1, 141, 181, 101);
+        long sum = x.checksum();
+        x.keep(1);
+        // another graph, with other bends
+        x.clear();
+        for (int node = 0; node < 5; node++) {
+            x.addNode(1, 0);
+        }
+        x.addEdge(4, 3, 0, 0, 2);
+        x.layOut();
+        due("restore(1)", x.restore(1), 4);
+        due("checksum()", x.checksum(), sum);
+        row(x, 1, 141, 181, 101);
+        due("placeOf(141)", x.placeOf(141), 0);
+        due("reversed(1)", x.reversed(1), 1);
+        int[][] want = {{0, 1, 1, 2, 3}, {1, 0, 3, 4, 1}, {2, 3, 5, 6, 2}};
+        for (int edge = 0; edge < 3; edge++) {
+            for (int what = 0; what < 5; what++) {
+                due("edge(" + edge + ", " + what + ")", x.edge(edge, what), want[edge][what]);
+            }
+        }
+        due("border(3, 1)", x.border(3, 1) - x.border(3, 0), 6);
+        due("border(2, 1)", x.border(2, 1) - x.border(2, 0), 7);
+        due("width()", x.width(), 17);
+        // changes of the order go on from what was restored, and the order then counts as changed
+        due("exchange(1, 0)", x.exchange(1, 0), x.crossings());
+        row(x, 1, 181, 141, 101);
+    }
+
     private static long sum(long... values) {
         long h = 53;
         for (long value : values) {
@@ -1483,5 +1663,7 @@ public final class PromisesTest {
         x.clear();
         x.layOut();
         due("checksum()", x.checksum(), sum(0, 0, 0, 0, 0, 0, 0));
+        due("checksum() of crossed ones", crossed().checksum(),
+            sum(4, 2, 0, 1, 0, 1, 0, 0, 1, 1, 2, 2, 1, 3, 4, 0, 0, 1, 2, 2, 0, 3, 2));
     }
 }

@@ -25,6 +25,8 @@ public final class LayeredDrawing {
     private static final int SLOTS = 2;
     private static final int FIRST_BEND_NAME = 100;
     private static final int BEND_NAMES_OF_AN_EDGE = 40;
+    /** More than any coordinate, flow or number of crossings. */
+    private static final int ENDLESS = 1 << 30;
 
     private final Graph graph;
     private final Layering layering;
@@ -748,7 +750,7 @@ public final class LayeredDrawing {
 
         /** The least flow of the edges that the cycle passes from their lower end, 0 without a cycle. */
         private int flowOfCycle(int start) {
-            int amount = Integer.MAX_VALUE;
+            int amount = ENDLESS;
             int node = start;
             for (int step = 0; step < MAX_NODES; step++) {
                 int edge = pushedBy[node];
@@ -760,7 +762,7 @@ public final class LayeredDrawing {
                 }
                 node = pusherOf(node);
                 if (node == start) {
-                    return amount == Integer.MAX_VALUE ? 0 : amount;
+                    return amount == ENDLESS ? 0 : amount;
                 }
             }
             return 0;
@@ -1106,7 +1108,7 @@ public final class LayeredDrawing {
         void siftVertex(int v) {
             int y = layerAt[v];
             int bestPlace = place[v];
-            int fewest = Integer.MAX_VALUE;
+            int fewest = ENDLESS;
             int size = sizeOf(y);
             for (int p = 0; p < size; p++) {
                 moveTo(v, p);
@@ -1179,7 +1181,7 @@ public final class LayeredDrawing {
 
         void alignLayers() {
             for (int y = 1; y < layering.layerCount; y++) {
-                int limit = Integer.MAX_VALUE;
+                int limit = ENDLESS;
                 for (int i = order.start[y + 1] - 1; i >= order.start[y]; i--) {
                     int v = order.sequence[i];
                     int wanted = Math.min(desiredLeft(v, y), limit - order.widthAt(v));
@@ -1251,7 +1253,7 @@ public final class LayeredDrawing {
         /** A side of the border of a group that has nodes: 0 left, 1 right, 2 lowest, 3 highest layer. */
         int sideOf(int group, int side) {
             boolean smallest = side == 0 || side == 2;
-            int found = smallest ? Integer.MAX_VALUE : 0;
+            int found = smallest ? ENDLESS : 0;
             for (int node = 0; node < graph.nodeCount; node++) {
                 if (graph.groupOf[node] == group) {
                     int value = sideOfNode(node, side);

@@ -646,6 +646,20 @@ public final class PromisesTest {
         x.exchange(1, 0);
         due("placeOf(101)", x.placeOf(101), 0);
         due("placeOf(3)", x.placeOf(3), 1);
+        // the bends of an edge that was removed are gone
+        x.addEdge(2, 1, 0, 0, 3);
+        x.layOut();
+        due("placeOf(181)", x.placeOf(181), -1 + x.vertices(1));
+        x.addEdge(0, 1, 0, 0, 3);
+        x.layOut();
+        due("placeOf(221)", x.placeOf(221), -1 + x.vertices(1));
+        x.removeEdge();
+        x.layOut();
+        due("placeOf(221)", x.placeOf(221), BAD);
+        x.removeEdge();
+        x.layOut();
+        due("placeOf(181)", x.placeOf(181), BAD);
+        due("placeOf(101)", x.placeOf(101), 1);
     }
 
     private static void crossingsBelow() {
@@ -993,10 +1007,12 @@ public final class PromisesTest {
         for (int node = 0; node < 12; node++) {
             x.addNode(1 + node % 3, node % 5 == 0 ? 1 : 0);
         }
+        int mixed = step;
         for (int edge = 0; edge < 18; edge++) {
-            int upper = edge * step % 8;
-            int lower = upper < 4 ? 4 + edge * 3 % 8 : 8 + edge * 3 % 4;
-            x.addEdge(upper, lower, edge % 8, edge * 5 % 8, 1);
+            mixed = (mixed * 421 + 1663) % 7875;
+            int upper = mixed / 8 % 8;
+            int lower = 4 + upper / 4 * 4 + mixed / 64 % 4;
+            x.addEdge(upper, lower, mixed % 8, edge * 5 % 8, 1);
         }
         x.layOut();
         return x;

@@ -9,6 +9,10 @@ final class Check {
         promise = "promise " + number + ", " + name;
     }
 
+    int count() {
+        return checked;
+    }
+
     void due(String call, long got, long want) {
         checked++;
         if (got != want) {

@@ -54,6 +54,7 @@ public final class LayeringTest {
     private void compareWithAll() {
         int nodes = x.nodes();
         int limit = 3 * (nodes - 1) + 1;
+        int[][] directed = directedEdges();
         int[] layer = new int[nodes];
         int[] lowest = new int[nodes];
         int shortest = Integer.MAX_VALUE;
@@ -62,7 +63,7 @@ public final class LayeringTest {
             for (int node = 0, rest = code; node < nodes; node++, rest /= limit) {
                 layer[node] = rest % limit;
             }
-            int length = length(layer);
+            int length = length(layer, directed);
             if (length < shortest) {
                 shortest = length;
                 System.arraycopy(layer, 0, lowest, 0, nodes);
@@ -78,13 +79,22 @@ public final class LayeringTest {
         }
     }
 
+    /** The upper end, the lower end and the least length of each edge. */
+    private int[][] directedEdges() {
+        int[][] directed = new int[x.edges()][];
+        for (int edge = 0; edge < directed.length; edge++) {
+            int upper = x.reversed(edge);
+            directed[edge] = new int[] {x.edge(edge, upper), x.edge(edge, 1 - upper), x.edge(edge, 4)};
+        }
+        return directed;
+    }
+
     /** The total length of a layering, more than any has if it is none. */
-    private int length(int[] layer) {
+    private static int length(int[] layer, int[][] directed) {
         int sum = 0;
-        for (int edge = 0; edge < x.edges(); edge++) {
-            boolean reversed = x.reversed(edge) == 1;
-            int length = layer[x.edge(edge, reversed ? 0 : 1)] - layer[x.edge(edge, reversed ? 1 : 0)];
-            if (length < x.edge(edge, 4)) {
+        for (int[] edge : directed) {
+            int length = layer[edge[1]] - layer[edge[0]];
+            if (length < edge[2]) {
                 return Integer.MAX_VALUE;
             }
             sum += length;

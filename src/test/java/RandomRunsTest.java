@@ -2,8 +2,10 @@ import java.util.Random;
 
 /** Runs of 512 calls, the same ones at each start, on LayeredDrawing and on the Model side by side. */
 public final class RandomRunsTest {
-    private static final int RUNS = 400;
+    private static final int RUNS = 600;
     private static final int CALLS = 512;
+    /** A step that writes an edge, at most 10 signs, asks for the fault behind each of them. */
+    private static final int LONGEST_STEP = 20;
     private static final int[] ODD = {-1, Integer.MIN_VALUE, Integer.MAX_VALUE, 12, 20, 34, 99, 100, 139, 899, 900, 8, 10};
 
     private final Check check = new Check();
@@ -38,10 +40,11 @@ public final class RandomRunsTest {
         for (int i = 0; i < edgeLimit; i++) {
             addEdge();
         }
-        int left = CALLS - wanted - edgeLimit - 1;
-        // the last call of each run is checksum()
-        for (int i = 0; i < left; i++) {
+        while (check.count() < CALLS - 1 - LONGEST_STEP) {
             call();
+        }
+        while (check.count() < CALLS - 1) {
+            askGraph(random.nextInt(9));
         }
         check.due("checksum()", x.checksum(), m.checksum());
         check.endIfWrong();

@@ -1,30 +1,44 @@
 /** Counts the answers that are not the ones that are due. */
 final class Check {
     private static final int MAX_SHOWN = 50;
+    private static final int MAX_NUMBER = 41;
+    private final int[] counts = new int[MAX_NUMBER + 1];
+    private int number = 0;
     private String promise = "";
     private int checked = 0;
     private int wrong = 0;
 
-    void promise(int number, String name) {
-        promise = "promise " + number + ", " + name;
+    /** What is checked from now on belongs to this promise, or to none of them (0). */
+    void promise(int newNumber, String name) {
+        number = newNumber;
+        promise = "promise " + newNumber + ", " + name;
     }
 
     int count() {
         return checked;
     }
 
+    int countOf(int promiseNumber) {
+        return counts[promiseNumber];
+    }
+
     void due(String call, long got, long want) {
-        checked++;
+        countOne();
         if (got != want) {
             fail(call + " answered " + got + ", due is " + want);
         }
     }
 
     void holds(String what, boolean holds) {
-        checked++;
+        countOne();
         if (!holds) {
             fail(what + " does not hold");
         }
+    }
+
+    private void countOne() {
+        checked++;
+        counts[number]++;
     }
 
     private void fail(String message) {

@@ -1,5 +1,10 @@
+import java.util.Set;
+import java.util.TreeSet;
+
 /** For each promise of the document: ordinary inputs, the edges that it names, and wrong inputs. */
 public final class PromisesTest extends Steps {
+    private static final int PROMISES = 41;
+
     public static void main(String[] args) {
         graphPromises();
         layerPromises();
@@ -7,6 +12,9 @@ public final class PromisesTest extends Steps {
         coordinatePromises();
         textPromises();
         slotPromises();
+        for (int number = 1; number <= PROMISES; number++) {
+            CHECK.holds("promise " + number + " has a test", CHECK.countOf(number) > 0);
+        }
         CHECK.end();
     }
 
@@ -43,14 +51,17 @@ public final class PromisesTest extends Steps {
         crossingsByPorts();
         crossings();
         crossingsOf();
+        crossingsOfNeighbours();
         sweepDown();
         sweepUp();
         sweepWeights();
         sweepWeightsOfBends();
+        sweepPortsOfBends();
         sweepGroups();
         sift();
         siftGroups();
         siftAll();
+        siftAllIsItsSifts();
         reduce();
         reduceIsItsRounds();
         reduceKeepsTheEarliest();
@@ -701,6 +712,25 @@ public final class PromisesTest extends Steps {
         due("crossingsOf(2, 3)", y.crossingsOf(2, 3), 1);
     }
 
+    private static void crossingsOfNeighbours() {
+        CHECK.promise(22, "crossingsOf, parts one above the other");
+        LayeredDrawing x = withNodes(5);
+        // 0 to 3 passes over 2, at which 2 to 4 begins, but one layer lower
+        connect(x, 0, 1, 0, 2, 0, 3, 2, 4);
+        x.layOut();
+        row(x, 1, 1, 2, 3);
+        due("crossingsOf(2, 3)", x.crossingsOf(2, 3), 0);
+        due("crossingsOf(3, 2)", x.crossingsOf(3, 2), 0);
+        due("crossings()", x.crossings(), 0);
+        // the same upside down: 3 to 4 ends behind 2, at which 0 to 2 ends, one layer higher
+        LayeredDrawing y = withNodes(5);
+        connect(y, 1, 4, 2, 4, 3, 4, 0, 2);
+        y.layOut();
+        row(y, 1, 1, 2, 3);
+        due("crossingsOf(2, 3)", y.crossingsOf(2, 3), 0);
+        due("crossingsOf(3, 2)", y.crossingsOf(3, 2), 0);
+    }
+
     private static void sweepDown() {
         CHECK.promise(23, "sweep down");
         LayeredDrawing x = withNodes(6);
@@ -797,6 +827,36 @@ public final class PromisesTest extends Steps {
         due("exchange(2, 0)", x.exchange(2, 0), 1);
         due("sweep(true)", x.sweep(true), 1);
         row(x, 2, 4, 3);
+    }
+
+    private static void sweepPortsOfBends() {
+        CHECK.promise(23, "sweep, a part has the port 0 at a bend");
+        LayeredDrawing x = withNodes(5);
+        x.addEdge(0, 1, 0, 0, 1);
+        x.addEdge(0, 4, 7, 0, 1);
+        x.addEdge(0, 2, 7, 7, 2);
+        x.addEdge(1, 3, 3, 0, 1);
+        x.addEdge(4, 3, 3, 0, 1);
+        x.layOut();
+        due("exchange(1, 1)", x.exchange(1, 1), x.crossings());
+        row(x, 1, 1, 181, 4);
+        // 2 weighs 8 of the bend; 3 weighs the middle of 3 and 19, which is 11: less than 8 and 7
+        x.sweep(true);
+        row(x, 1, 1, 181, 4);
+        row(x, 2, 2, 3);
+        // upwards: 0 weighs 8 of the bend, 1 the middle of 3 and 19
+        LayeredDrawing y = withNodes(5);
+        y.addEdge(1, 2, 0, 3, 1);
+        y.addEdge(1, 3, 0, 3, 1);
+        y.addEdge(0, 4, 7, 7, 2);
+        y.addEdge(2, 4, 0, 0, 1);
+        y.addEdge(3, 4, 0, 7, 1);
+        y.layOut();
+        due("exchange(1, 1)", y.exchange(1, 1), y.crossings());
+        row(y, 1, 2, 181, 3);
+        y.sweep(false);
+        row(y, 1, 2, 181, 3);
+        row(y, 0, 0, 1);
     }
 
     private static void sweepGroups() {
@@ -917,6 +977,34 @@ public final class PromisesTest extends Steps {
         row(w, 0, 0, 2, 3);
         due("siftAll()", w.siftAll(), 0);
         row(w, 0, 3, 2, 0);
+    }
+
+    /** Each vertex is sifted once: the second of two rounds would find other orders. */
+    private static void siftAllIsItsSifts() {
+        CHECK.promise(25, "siftAll, its sifts");
+        int changedByASecondRound = 0;
+        for (int step = 1; step < 60; step++) {
+            LayeredDrawing x = tangled(step);
+            LayeredDrawing y = tangled(step);
+            siftLayerByLayer(y);
+            due("siftAll()", x.siftAll(), y.crossings());
+            due("checksum()", x.checksum(), y.checksum());
+            siftLayerByLayer(y);
+            changedByASecondRound += x.checksum() == y.checksum() ? 0 : 1;
+        }
+        CHECK.holds("a second round changes some", changedByASecondRound > 0);
+    }
+
+    private static void siftLayerByLayer(LayeredDrawing x) {
+        for (int layer = 0; layer < x.layers(); layer++) {
+            Set<Integer> names = new TreeSet<>();
+            for (int place = 0; place < x.vertices(layer); place++) {
+                names.add(x.vertex(layer, place));
+            }
+            for (int name : names) {
+                x.sift(name);
+            }
+        }
     }
 
     private static void reduce() {
